@@ -34,7 +34,7 @@ public final class FrameSwapper {
 
     public FrameSwapper() {
         desk = new Desk();
-        composer = new Composer(desk);
+        composer = new Composer();
         beam = new Beam();
         area = new Rectangle();
         carried = new Picture();
@@ -123,7 +123,7 @@ public final class FrameSwapper {
     public int draw(int n) throws IllegalArgumentException {
         demand(isWithin(n, 0, MOST_STEPS));
         if (n != 0 && composer.state == RESTS && composer.takenCommit < desk.commits) {
-            composer.begin();
+            composer.begin(desk);
         }
         return composer.makeSteps(n);
     }
@@ -648,7 +648,6 @@ public final class FrameSwapper {
         // The step of a rectangle that comes before those of the pile's levels.
         private static final int BLACKEN = -1;
 
-        final Desk desk;
         final Pile taken = new Pile();
         final Planes chosen = new Planes();
         final boolean[] wasInPlane = new boolean[SURFACES];
@@ -662,19 +661,18 @@ public final class FrameSwapper {
         int hole;
         int level;
 
-        Composer(Desk itsDesk) {
-            desk = itsDesk;
+        Composer() {
             for (int s = 0; s < SURFACES; s++) {
                 shownBefore[s] = new Rectangle();
             }
         }
 
-        void begin() {
+        void begin(Desk desk) {
             rememberBefore();
             taken.become(desk.committed);
             takenCommit = desk.commits;
             chosen.choose(taken);
-            noteChanges();
+            noteChanges(desk);
             desk.allTaken();
             state = COMPOSES;
             startHole(0);
@@ -687,7 +685,7 @@ public final class FrameSwapper {
             }
         }
 
-        private void noteChanges() {
+        private void noteChanges(Desk desk) {
             for (int s = 0; s < SURFACES; s++) {
                 boolean isInPlane = chosen.has(s);
                 boolean changed = desk.isWaiting(s) || isInPlane != wasInPlane[s];

@@ -14,6 +14,7 @@ public final class ComposeTest {
         planesFromAbove();
         planesNeedAllOfIt();
         planeAndMemoryChange();
+        whatAPlaneShowedIsNotMissed();
         missedAnswersNone();
         Checks.end();
     }
@@ -288,6 +289,27 @@ public final class ComposeTest {
         Checks.sameMissed(screen, 2, 6, 5, 5, 5);
         Checks.noMissed(screen, 3);
         Checks.same("steps without the surface in the plane", screen.draw(200), 4);
+    }
+
+    private static void whatAPlaneShowedIsNotMissed() {
+        FrameSwapper screen = new FrameSwapper();
+        Checks.patch(screen, 0, 4, 4, 9);
+        screen.place(0, 2, 2, 0, 16, true);
+        screen.commit(0);
+        Checks.show(screen);
+        screen.place(0, 12, 2, 0, 15, true);
+        screen.commit(0);
+        screen.draw(1);
+        Checks.sameMissed(screen, 0, 12, 2, 4, 4);
+        Checks.noMissed(screen, 1);
+        screen.draw(200);
+        Checks.frame(screen);
+        screen.place(0, 2, 2, 0, 16, true);
+        screen.commit(0);
+        Checks.same("what memory showed becomes 0", screen.draw(200), 1);
+        Checks.frame(screen);
+        Checks.sameMissed(screen, 0, 12, 2, 4, 4);
+        Checks.noMissed(screen, 1);
     }
 
     private static void missedAnswersNone() {

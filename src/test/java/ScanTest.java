@@ -6,6 +6,7 @@ public final class ScanTest {
         readyWithinAFrame();
         notReadyIsNotSwapped();
         planesAreSetInTheGap();
+        planesWaitForMemory();
         planesKeepTheirPixels();
         countsOfCommits();
         noneForOthers();
@@ -101,6 +102,34 @@ public final class ScanTest {
         Checks.frame(screen);
         Checks.same("seen where it was", screen.seen(1, 1), 0);
         Checks.same("seen where it goes", screen.seen(19, 9), 9);
+    }
+
+    private static void planesWaitForMemory() {
+        FrameSwapper screen = withShown(2, 2);
+        Checks.show(screen);
+        Checks.same("seen in the plane", screen.seen(1, 1), 9);
+        screen.place(0, 0, 0, 0, 15, true);
+        screen.surface(0, 1, 1);
+        screen.put(1, 0, 0, 33);
+        screen.place(1, 5, 5, 1, 16, true);
+        screen.commit(0);
+        Checks.same("a step of two", screen.draw(1), 1);
+        Checks.same("the plane is given to another one", screen.plane(0), 1);
+        Checks.frame(screen);
+        Checks.frame(screen);
+        Checks.same("seen as it was", screen.seen(1, 1), 9);
+        Checks.same("not seen yet", screen.seen(5, 5), 0);
+        screen.draw(1);
+        Checks.frame(screen);
+        Checks.same("seen as it was", screen.seen(1, 1), 9);
+        Checks.frame(screen);
+        Checks.same("seen from memory", screen.seen(1, 1), 8);
+        Checks.same("seen in the plane", screen.seen(5, 5), 33);
+        screen.place(1, 5, 5, 1, 16, false);
+        screen.commit(0);
+        Checks.show(screen);
+        Checks.same("the plane is given to none", screen.plane(0), -1);
+        Checks.same("seen no longer", screen.seen(5, 5), 0);
     }
 
     private static void planesKeepTheirPixels() {

@@ -167,11 +167,14 @@ public final class SurfaceTest {
         Checks.show(screen);
         Checks.same("surface", screen.surface(0, 2, 2), 0);
         Checks.same("wanted", screen.wanted(3, 3), 0);
+        screen.put(0, 0, 0, 8);
         screen.commit(0);
         Checks.same("wanted, not visible", screen.wanted(0, 0), 0);
+        Checks.same("wanted, not visible", screen.wanted(3, 3), 0);
         screen.place(0, 0, 0, 0, 16, true);
         screen.commit(0);
-        Checks.same("wanted, pixels 0", screen.wanted(0, 0), 0);
+        Checks.same("wanted", screen.wanted(0, 0), 8);
+        Checks.same("wanted, pixels 0", screen.wanted(1, 0), 0);
         screen.fill(0, 0, 0, 2, 2, 9);
         screen.commit(0);
         Checks.same("wanted, all of it in the clip", screen.wanted(1, 1), 9);
