@@ -93,7 +93,7 @@ public final class RandomRunsTest {
         for (int i = 0; i < names.size(); i++) {
             String call = names.get(i);
             int[] a = arguments.get(i);
-            answer(() -> callScreen(twin, call, a));
+            answer(() -> Calls.make(twin, call, a));
         }
         int[] all = new int[many];
         int width = name.equals("missed") ? 7 : 20;
@@ -104,7 +104,7 @@ public final class RandomRunsTest {
     }
 
     private String compare(FrameSwapper object, String name, int[] a) {
-        String got = answer(() -> callScreen(object, name, a));
+        String got = answer(() -> Calls.make(object, name, a));
         String due = answer(() -> callModel(name, a));
         if (!got.equals(due)) {
             failed = true;
@@ -166,28 +166,6 @@ public final class RandomRunsTest {
                 return new int[] {random.nextInt(2) == 0 ? number(0, 200) : number(0, 9)};
             default:
                 return new int[] {random.nextInt(3) == 0 ? number(0, 19) : s, number(0, 9)};
-        }
-    }
-
-    private static int callScreen(FrameSwapper screen, String name, int[] a) {
-        switch (name) {
-            case "surface": return screen.surface(a[0], a[1], a[2]);
-            case "destroy": screen.destroy(a[0]); return 0;
-            case "place": screen.place(a[0], a[1], a[2], a[3], a[4], a[5] != 0); return 0;
-            case "clip": screen.clip(a[0], a[1], a[2], a[3], a[4]); return 0;
-            case "put": screen.put(a[0], a[1], a[2], a[3]); return 0;
-            case "fill": return screen.fill(a[0], a[1], a[2], a[3], a[4], a[5]);
-            case "copy": return screen.copy(a[0], a[1], a[2], a[3], a[4], a[5], a[6], a[7]);
-            case "commit": return screen.commit(a[0]);
-            case "draw": return screen.draw(a[0]);
-            case "scan": return screen.scan();
-            case "state": return screen.state();
-            case "seen": return screen.seen(a[0], a[1]);
-            case "wanted": return screen.wanted(a[0], a[1]);
-            case "count": return screen.count(a[0]);
-            case "missed": return screen.missed(a[0], a[1]);
-            case "plane": return screen.plane(a[0]);
-            default: return screen.free();
         }
     }
 
