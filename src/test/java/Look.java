@@ -23,6 +23,7 @@ final class Look {
         look.atPixels();
         look.atDrafts();
         look.atWhatDraftsShow();
+        look.atWhatDraftsShowOnceMore();
         look.atDraftPixels();
         look.atComing();
         return look.answers;
@@ -86,6 +87,18 @@ final class Look {
             answers.add(screen.wanted(i % 20, i / 20));
         }
         askNumbers(screen);
+    }
+
+    /** With new clips, which makes an object look again at whatever it keeps of a draft. */
+    private void atWhatDraftsShowOnceMore() {
+        FrameSwapper screen = again();
+        for (int s = 0; s < 10; s++) {
+            answers.add(Calls.answer(screen, "clip", s, 0, 0, 30, 30));
+        }
+        allCommitted(screen);
+        for (int i = 0; i < 200; i++) {
+            answers.add(screen.wanted(i % 20, i / 20));
+        }
     }
 
     /** Takes what waits, so that six more may, and commits all drafts. */

@@ -25,17 +25,19 @@ public final class RangesTest {
         Checks.end();
     }
 
-    /** Ten surfaces, of which two are in memory and two in planes, and the composer at work. */
+    /** Ten surfaces, of which two are in memory and two in planes, the composer at work; drafts above and below 0's. */
     private static void tenAtWork(FrameSwapper screen) {
         for (int s = 0; s < 10; s++) {
             screen.surface(0, 4, 3);
             screen.fill(s, 0, 0, 4, 3, 1000 + s);
         }
         for (int s = 0; s < 4; s++) {
-            screen.place(s, 5 * s, 2, s, s < 2 ? 15 : 16, true);
+            screen.place(s, 5 * s, 2, s + 1, s < 2 ? 15 : 16, true);
         }
         screen.commit(0);
         screen.draw(1);
+        screen.place(4, 1, 3, 5, 16, true);
+        screen.place(5, 2, 1, 0, 16, true);
         screen.scan();
     }
 

@@ -18,7 +18,10 @@ public final class RectanglesTest {
         firstByTheFirstPlace();
         firstByTheSecondPlace();
         leastMayBeBelowZero();
+        leastMayBeOfTheFirstAndTheThird();
+        pixelsCountNotSides();
         eachMemoryHasItsOwn();
+        onlyTheRectangleIsRedrawn();
         Checks.end();
     }
 
@@ -199,6 +202,33 @@ public final class RectanglesTest {
             box(19, 9, 1, 1));
     }
 
+    private static void leastMayBeOfTheFirstAndTheThird() {
+        int[][] boxes = {box(0, 0, 1, 1), box(19, 0, 1, 1), box(1, 0, 1, 1), box(9, 4, 1, 1), box(0, 9, 1, 1),
+            box(19, 9, 1, 1), box(9, 9, 1, 1)};
+        missesAfterBegin(boxes, box(0, 0, 2, 1), box(19, 0, 1, 1), box(9, 4, 1, 1), box(0, 9, 1, 1), box(19, 9, 1, 1),
+            box(9, 9, 1, 1));
+    }
+
+    /** Wide ones and tall ones, that reach beyond one another on either side. */
+    private static void pixelsCountNotSides() {
+        int[] single = box(19, 8, 1, 1);
+        int[] other = box(9, 9, 1, 1);
+        int[] third = box(13, 0, 1, 1);
+        // 3 by 9 less 12 is 15 for the tall ones; 12 by 2 less 16 is 8 for the wide ones.
+        int[][] tall = {box(0, 0, 1, 6), box(2, 3, 1, 6)};
+        int[][] wide = {box(4, 4, 8, 1), box(8, 5, 8, 1)};
+        for (int way = 0; way < 4; way++) {
+            int[][] boxes = {tall[way % 2], wide[way / 2], single, tall[1 - way % 2], other, third, wide[1 - way / 2]};
+            missesAfterBegin(boxes, boxes[0], box(4, 4, 12, 2), single, boxes[3], other, third);
+        }
+        // With a row between them, 12 by 3 less 16 is 20: now the tall ones are nearer.
+        wide[1] = box(8, 6, 8, 1);
+        for (int way = 0; way < 4; way++) {
+            int[][] boxes = {tall[way % 2], wide[way / 2], single, tall[1 - way % 2], other, third, wide[1 - way / 2]};
+            missesAfterBegin(boxes, box(0, 0, 3, 9), boxes[1], single, other, third, boxes[6]);
+        }
+    }
+
     private static void eachMemoryHasItsOwn() {
         FrameSwapper screen = with(15, box(0, 0, 1, 1), box(19, 0, 1, 1), box(0, 9, 1, 1), box(19, 9, 1, 1));
         screen.draw(200);
@@ -217,5 +247,32 @@ public final class RectanglesTest {
         screen.draw(200);
         Checks.frame(screen);
         missedAre(screen, box(4, 4, 1, 1), box(8, 4, 1, 1), box(12, 4, 1, 1));
+    }
+
+    /** What is half there, over something else, must be painted once: within the rectangle anew, beyond it not again. */
+    private static void onlyTheRectangleIsRedrawn() {
+        int[][] steps = {{4, 3}, {5, 4}, {8, 2}, {0, 0}, {11, 5}, {6, 6}, {16, 3}, {1, 6}};
+        for (int many = 1; many <= steps.length; many++) {
+            FrameSwapper seen = new FrameSwapper();
+            FrameSwapper wanted = new FrameSwapper();
+            for (FrameSwapper screen : new FrameSwapper[] {seen, wanted}) {
+                int below = Checks.patch(screen, 0, 12, 8, 65535);
+                screen.place(below, 2, 1, 0, 16, true);
+                int half = Checks.patch(screen, 1, 12, 8, 31);
+                screen.place(half, 5, 2, 1, 8, true);
+                screen.commit(0);
+                screen.commit(1);
+                int above = Checks.patch(screen, 2, 5, 3, 2016);
+                for (int i = 0; i < many; i++) {
+                    Checks.show(screen);
+                    screen.place(above, steps[i][0], steps[i][1], 2, 5, true);
+                    screen.commit(2);
+                }
+            }
+            Checks.show(seen);
+            for (int i = 0; i < 200; i++) {
+                Checks.same("seen, pixel " + i, seen.seen(i % 20, i / 20), wanted.wanted(i % 20, i / 20));
+            }
+        }
     }
 }

@@ -90,6 +90,8 @@ public final class RefusedTest {
         screen.place(0, 3, 1, 2, 11, true);
         screen.clip(0, 1, 0, 3, 2);
         screen.fill(0, 1, 1, 1, 1, 4000);
+        screen.place(1, 2, 2, 5, 16, true);
+        screen.place(2, 4, 0, 1, 16, true);
     }
 
     private static void resting(FrameSwapper screen) {
