@@ -18,6 +18,7 @@ public final class LimitsTest {
         sevenRectangles();
         mostSteps();
         asManyStepsAsAreLeft();
+        allIsMissedToTheLastStep();
         fiveHundredTwelveScans();
         fiveHundredTwelveCallsWithCommits();
         Checks.end();
@@ -321,6 +322,36 @@ public final class LimitsTest {
             Checks.same("state after " + i, single.state(), i < 66 ? 1 : 2);
         }
         Checks.same("draw(1)", single.draw(1), 0);
+    }
+
+    /** "While the back memory is redrawn, all that it missed when that began." */
+    private static void allIsMissedToTheLastStep() {
+        FrameSwapper screen = new FrameSwapper();
+        int[][] boxes = {{0, 0, 5, 5}, {3, 2, 5, 5}, {15, 5, 5, 5}};
+        for (int[] b : boxes) {
+            box(screen, b[0], b[1], b[2], b[3], 16);
+        }
+        screen.commit(0);
+        for (int step = 1; step <= 7; step++) {
+            Checks.same("draw(1)", screen.draw(1), 1);
+            for (int i = 0; i < 3; i++) {
+                Checks.sameMissed(screen, i, boxes[i][0], boxes[i][1], boxes[i][2], boxes[i][3]);
+            }
+            Checks.noMissed(screen, 3);
+            screen.scan();
+            // What comes meanwhile is added when the composer begins again, not before.
+            screen.place(0, step, 0, 0, 16, true);
+            if (step <= 6) {
+                screen.commit(0);
+            }
+        }
+        Checks.same("the last step", screen.draw(1), 1);
+        Checks.noMissed(screen, 0);
+        Checks.frame(screen);
+        for (int i = 0; i < 3; i++) {
+            Checks.sameMissed(screen, i, boxes[i][0], boxes[i][1], boxes[i][2], boxes[i][3]);
+        }
+        Checks.noMissed(screen, 3);
     }
 
     private static void fiveHundredTwelveScans() {

@@ -8,6 +8,7 @@ public final class ScanTest {
         planesAreSetInTheGap();
         planesWaitForMemory();
         planesKeepTheirPixels();
+        planesOutliveTheirSurface();
         countsOfCommits();
         noneForOthers();
         Checks.end();
@@ -154,6 +155,28 @@ public final class ScanTest {
         screen.commit(0);
         Checks.frame(screen);
         Checks.same("seen as it was chosen", screen.seen(6, 0), 7);
+    }
+
+    private static void planesOutliveTheirSurface() {
+        FrameSwapper screen = withShown(3, 2);
+        Checks.show(screen);
+        screen.destroy(0);
+        screen.commit(0);
+        Checks.frame(screen);
+        Checks.same("seen when its end is committed", screen.seen(2, 1), 9);
+        screen.draw(200);
+        Checks.same("plane(0)", screen.plane(0), -1);
+        Checks.same("its number is free", Checks.patch(screen, 1, 3, 2, 44), 0);
+        screen.place(0, 0, 0, 0, 16, true);
+        screen.commit(1);
+        Checks.frame(screen);
+        Checks.same("seen until the gap behind which it isn't set", screen.seen(2, 1), 9);
+        screen.draw(200);
+        Checks.same("plane(0) is given to the new one", screen.plane(0), 0);
+        Checks.frame(screen);
+        Checks.same("neither of both", screen.seen(2, 1), 0);
+        Checks.frame(screen);
+        Checks.same("the new one", screen.seen(2, 1), 44);
     }
 
     private static void countsOfCommits() {
